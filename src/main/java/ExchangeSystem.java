@@ -14,6 +14,7 @@ public final class ExchangeSystem {
     private static final int CELLS_OF_BLOCK = 8;
     private static final int CELLS_IN_ALL = 48;
     private static final int TEXT_ROOM = 36;
+    /** The document's limit, though a text of 36 characters holds seven rules at most. */
     private static final int RULES_ROOM = 9;
     private static final int QUEUE_ROOM = 3;
     private static final int MASKS = 1 << ENDS;
@@ -589,7 +590,6 @@ public final class ExchangeSystem {
         void begin(int process) {
             owner = process;
             state = FIRST_STATE;
-            waiting = 0;
         }
 
         void addLast(int letter, int value) {

@@ -6,6 +6,7 @@ public final class CloseTest {
         messagesAreDropped();
         ownMessagesStay();
         chains();
+        theLongestChain();
         trees();
         rings();
         Due.end();
@@ -96,6 +97,28 @@ public final class CloseTest {
         for (int e = 0; e < 12; e++) {
             Due.is("owner of end " + e, x.ofEnd(e, 0), (e & 1) == 0 ? 0 : -1);
         }
+    }
+
+    /** All twelve ends, each but the last with the next one in its queue: those of side 1, then of side 0. */
+    private static void theLongestChain() {
+        ExchangeSystem x = Due.system(1, "1E!1,1a?2,2E?2");
+        int[] chain = {1, 3, 5, 7, 9, 11, 0, 2, 4, 6, 8, 10};
+        for (int c = 0; c < 6; c++) {
+            x.open(0, 0, 0);
+            x.say(0, 2 * c + 1, 0, 0);
+        }
+        // In this order each end says what it has to say before it is sent itself.
+        int[] order = {4, 9, 2, 7, 0, 5, 10, 3, 8, 1, 6};
+        for (int link : order) {
+            x.say(0, chain[link] ^ 1, 6, chain[link + 1]);
+        }
+        Due.is("count(4)", x.count(4), 17);
+        Due.is("the process owns the first", x.ofEnd(1, 0), 0);
+        Due.is("close", x.close(0, 1), 12);
+        Due.is("count(3)", x.count(3), 0);
+        Due.is("count(4)", x.count(4), 0);
+        Due.is("count(7)", x.count(7), 17);
+        Due.is("all channels are free", x.open(0, 0, 0), 0);
     }
 
     /** The first message carries an end with messages of its own; those behind it go as well. */
