@@ -2,13 +2,62 @@ import java.util.NoSuchElementException;
 
 /** What the tests share: answers and exceptions that are due, and how a test ends. */
 final class Due {
+    /** Far above what the slowest test needs: a call that does not end must not hold up the others. */
+    private static final long LONGEST_MILLISECONDS = 300_000;
+
     private static int wrong = 0;
+
+    static {
+        Thread watch = new Thread(Due::haltLater);
+        watch.setDaemon(true);
+        watch.start();
+    }
 
     interface Call {
         void make();
     }
 
+    interface Scene {
+        ExchangeSystem make();
+    }
+
+    interface Use {
+        void on(ExchangeSystem x);
+    }
+
     private Due() {
+    }
+
+    private static void haltLater() {
+        try {
+            Thread.sleep(LONGEST_MILLISECONDS);
+        } catch (InterruptedException stop) {
+            return;
+        }
+        System.out.println("a call does not end");
+        Runtime.getRuntime().halt(1);
+    }
+
+    /** The test of one sentence of the document; a failure names the sentence. */
+    static void sentence(String sentence, Call test) {
+        int before = wrong;
+        try {
+            test.make();
+        } catch (RuntimeException | StackOverflowError thrown) {
+            report("threw " + thrown + " at " + placeInTest(thrown));
+        }
+        if (wrong != before) {
+            System.out.println("    broken: " + sentence);
+        }
+    }
+
+    private static String placeInTest(Throwable thrown) {
+        for (StackTraceElement place : thrown.getStackTrace()) {
+            if (place.getClassName().endsWith("Test")) {
+                return place.toString();
+            }
+        }
+        return "an unknown place";
     }
 
     static void is(String call, long got, long want) {
@@ -51,6 +100,17 @@ final class Due {
         report(name + " threw nothing, due is " + want.getName());
     }
 
+    /** The call throws, and then the object answers like one of the same scene without that call. */
+    static void changesNothing(String name, Scene scene, Use call) {
+        ExchangeSystem x = scene.make();
+        try {
+            call.on(x);
+            report(name + " threw nothing");
+        } catch (RuntimeException thrown) {
+            same("behind " + name + " all", everything(x), everything(scene.make()));
+        }
+    }
+
     static void report(String line) {
         wrong++;
         System.out.println(line);
@@ -62,6 +122,11 @@ final class Due {
         if (wrong != 0) {
             System.exit(1);
         }
+    }
+
+    /** Numbers out of the range, next to it and far from it. */
+    static int[] outside(int least, int most) {
+        return new int[] {least - 1, most + 1, Integer.MIN_VALUE, Integer.MAX_VALUE};
     }
 
     /** The number whose bytes are the characters of a text of at most eight. */
@@ -94,22 +159,63 @@ final class Due {
         return x;
     }
 
-    /** All that can be seen of an object, but for the cells of blocks that messages carry. */
+    /** Opens so many channels with contract 0, both ends owned by process 0. */
+    static void openOwn(ExchangeSystem x, int channels) {
+        for (int c = 0; c < channels; c++) {
+            x.open(0, 0, 0);
+        }
+    }
+
+    /** Hands so many blocks of n cells to process p. */
+    static void handOut(ExchangeSystem x, int p, int blocks, int n) {
+        for (int b = 0; b < blocks; b++) {
+            x.block(p, n);
+        }
+    }
+
+    /** All that can be seen of an object, but for what waits in queues. */
     static String picture(ExchangeSystem x) {
-        StringBuilder all = new StringBuilder("counts");
+        StringBuilder all = new StringBuilder("text ").append(x.type(0)).append("; counts");
         for (int what = 0; what <= 9; what++) {
             all.append(' ').append(x.count(what));
         }
         for (int b = 0; b < 12; b++) {
             int owner = x.ofBlock(b, 0);
-            all.append("; block ").append(b).append(' ').append(owner);
-            for (int i = 0; i < x.ofBlock(b, 1) && owner < 4; i++) {
+            int cells = x.ofBlock(b, 1);
+            all.append("; block ").append(b).append(' ').append(owner).append(" of ").append(cells);
+            for (int i = 0; i < cells && owner >= 0 && owner < 4; i++) {
                 all.append(' ').append(x.read(owner, b, i));
             }
         }
         for (int e = 0; e < 12; e++) {
             all.append("; end ").append(e).append(' ').append(x.ofEnd(e, 0));
             all.append(' ').append(x.ofEnd(e, 1)).append(' ').append(x.ofEnd(e, 2));
+        }
+        return all.toString();
+    }
+
+    /** The picture, then all that can be heard, then the picture again: the object is used up. */
+    private static String everything(ExchangeSystem x) {
+        StringBuilder all = new StringBuilder(picture(x)).append("; heard");
+        for (int pass = 0; pass < 2; pass++) {
+            for (int e = 0; e < 12; e++) {
+                int owner = x.ofEnd(e, 0);
+                if (owner >= 0 && owner < 4) {
+                    all.append(' ').append(e).append(':').append(heardAt(x, owner, e));
+                }
+            }
+        }
+        return all.append("; ").append(picture(x)).toString();
+    }
+
+    private static String heardAt(ExchangeSystem x, int owner, int e) {
+        StringBuilder all = new StringBuilder();
+        try {
+            for (int m = 0; m < 3; m++) {
+                all.append(x.hear(owner, e)).append(',');
+            }
+        } catch (IllegalStateException | NoSuchElementException thrown) {
+            all.append(thrown.getClass().getSimpleName());
         }
         return all.toString();
     }

@@ -3,74 +3,90 @@ import java.lang.reflect.Field;
 import java.lang.reflect.Method;
 import java.lang.reflect.Modifier;
 import java.util.ArrayList;
-import java.util.Arrays;
-import java.util.Collections;
 import java.util.List;
 
 /** "The public face" of the document, and rules 1 and 5 of LANGUAGE.md. */
 public final class FaceTest {
-    private static final String BAD = "IllegalArgumentException";
-    private static final String NOT_YOURS = BAD + " IllegalStateException";
-    private static final String NONE = NOT_YOURS + " NoSuchElementException";
+    private static final Class<?> FACE = ExchangeSystem.class;
+    private static final String[] METHODS = {
+        "int type(long) IllegalArgumentException UnsupportedOperationException",
+        "int contract(int) IllegalArgumentException",
+        "int start() UnsupportedOperationException",
+        "int kill(int) IllegalArgumentException IllegalStateException",
+        "int block(int int) IllegalArgumentException IllegalStateException UnsupportedOperationException",
+        "void free(int int) IllegalArgumentException IllegalStateException",
+        "int read(int int int) IllegalArgumentException IllegalStateException NoSuchElementException",
+        "void write(int int int int) IllegalArgumentException IllegalStateException NoSuchElementException",
+        "int open(int int int) IllegalArgumentException IllegalStateException NoSuchElementException"
+            + " UnsupportedOperationException",
+        "void say(int int int int) IllegalArgumentException IllegalStateException NoSuchElementException",
+        "int hear(int int) IllegalArgumentException IllegalStateException NoSuchElementException",
+        "int choose(int int) IllegalArgumentException IllegalStateException NoSuchElementException",
+        "int close(int int) IllegalArgumentException IllegalStateException",
+        "int ofBlock(int int) IllegalArgumentException",
+        "int ofEnd(int int) IllegalArgumentException",
+        "int count(int) ",
+    };
 
     public static void main(String[] args) {
-        Class<?> face = ExchangeSystem.class;
-        Due.is("public and final", face.getModifiers(), Modifier.PUBLIC | Modifier.FINAL);
-        Due.same("the methods", methods(face), String.join("\n", sorted(
-            "int type(long) " + BAD + " UnsupportedOperationException",
-            "int contract(int) " + BAD,
-            "int start() UnsupportedOperationException",
-            "int kill(int) " + NOT_YOURS,
-            "int block(int int) " + NOT_YOURS + " UnsupportedOperationException",
-            "void free(int int) " + NOT_YOURS,
-            "int read(int int int) " + NONE,
-            "void write(int int int int) " + NONE,
-            "int open(int int int) " + NONE + " UnsupportedOperationException",
-            "void say(int int int int) " + NONE,
-            "int hear(int int) " + NONE,
-            "int choose(int int) " + NONE,
-            "int close(int int) " + NOT_YOURS,
-            "int ofBlock(int int) " + BAD,
-            "int ofEnd(int int) " + BAD,
-            "int count(int) ")));
-        constructorsAndFields(face);
-        noPrivateNamesakes(face);
+        Due.is("public and final", FACE.getModifiers(), Modifier.PUBLIC | Modifier.FINAL);
+        Due.sentence("The methods of the document and no other.", FaceTest::methods);
+        Due.sentence("The constructor of the document and no other.", FaceTest::constructors);
+        Due.sentence("No field that others see, no static state.", FaceTest::fields);
+        Due.sentence("The classes inside are private or package-visible.", FaceTest::classesInside);
+        Due.sentence("No private method bears the name of a public one.", FaceTest::noPrivateNamesakes);
         Due.end();
     }
 
-    private static List<String> sorted(String... lines) {
-        List<String> list = new ArrayList<>(Arrays.asList(lines));
-        Collections.sort(list);
-        return list;
-    }
-
-    private static String methods(Class<?> face) {
-        List<String> lines = new ArrayList<>();
-        for (Method method : face.getDeclaredMethods()) {
+    private static void methods() {
+        int found = 0;
+        for (Method method : FACE.getDeclaredMethods()) {
             if (!Modifier.isPrivate(method.getModifiers())) {
                 Due.is(method + " has these modifiers", method.getModifiers(), Modifier.PUBLIC);
-                lines.add(method.getReturnType() + " " + method.getName()
-                    + "(" + names(method.getParameterTypes()) + ") " + names(method.getExceptionTypes()));
+                found += isOfTheDocument(method) ? 1 : 0;
             }
         }
-        Collections.sort(lines);
-        return String.join("\n", lines);
+        Due.is("methods of the document", found, METHODS.length);
     }
 
-    private static String names(Class<?>[] types) {
+    private static boolean isOfTheDocument(Method method) {
+        String head = method.getReturnType() + " " + method.getName() + "(" + parameters(method) + ") ";
+        for (String line : METHODS) {
+            if (line.startsWith(head)) {
+                declaresNoOther(method, line);
+                return true;
+            }
+        }
+        Due.report(head + "is not in the document");
+        return false;
+    }
+
+    private static String parameters(Method method) {
         List<String> names = new ArrayList<>();
-        for (Class<?> type : types) {
+        for (Class<?> type : method.getParameterTypes()) {
             names.add(type.getSimpleName());
         }
         return String.join(" ", names);
     }
 
-    private static void constructorsAndFields(Class<?> face) {
-        Constructor<?>[] constructors = face.getDeclaredConstructors();
+    /** All are unchecked, so one that is left out is no fault. */
+    private static void declaresNoOther(Method method, String line) {
+        for (Class<?> type : method.getExceptionTypes()) {
+            if (!line.contains(type.getSimpleName())) {
+                Due.report(method + " declares " + type);
+            }
+        }
+    }
+
+    private static void constructors() {
+        Constructor<?>[] constructors = FACE.getDeclaredConstructors();
         Due.is("constructors", constructors.length, 1);
         Due.is("its parameters", constructors[0].getParameterCount(), 0);
         Due.is("its modifiers", constructors[0].getModifiers(), Modifier.PUBLIC);
-        for (Field field : face.getDeclaredFields()) {
+    }
+
+    private static void fields() {
+        for (Field field : FACE.getDeclaredFields()) {
             int modifiers = field.getModifiers();
             if (!Modifier.isPrivate(modifiers)) {
                 Due.report(field + " is not private");
@@ -79,16 +95,20 @@ public final class FaceTest {
                 Due.report(field + " is static and not final");
             }
         }
-        for (Class<?> inner : face.getDeclaredClasses()) {
-            if (!Modifier.isStatic(inner.getModifiers()) || Modifier.isPublic(inner.getModifiers())) {
-                Due.report(inner + " is public or not static");
+    }
+
+    private static void classesInside() {
+        for (Class<?> inner : FACE.getDeclaredClasses()) {
+            int modifiers = inner.getModifiers();
+            if (Modifier.isPublic(modifiers) || Modifier.isProtected(modifiers) || !Modifier.isStatic(modifiers)) {
+                Due.report(inner + " is public, protected or not static");
             }
         }
     }
 
-    private static void noPrivateNamesakes(Class<?> face) {
-        for (Method one : face.getDeclaredMethods()) {
-            for (Method other : face.getDeclaredMethods()) {
+    private static void noPrivateNamesakes() {
+        for (Method one : FACE.getDeclaredMethods()) {
+            for (Method other : FACE.getDeclaredMethods()) {
                 boolean namesakes = one.getName().equals(other.getName());
                 if (namesakes && Modifier.isPrivate(one.getModifiers()) && Modifier.isPublic(other.getModifiers())) {
                     Due.report(one + " bears the name of a public method");
