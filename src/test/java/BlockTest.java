@@ -158,6 +158,9 @@ public final class BlockTest {
         for (int b = 0; b < 12; b++) {
             Due.is("twelve of four", twelve.block(0, 4), b);
         }
+        Due.is("count(2)", twelve.count(2), 48);
+        twelve.free(0, 0);
+        Due.noRoom("five more than 44", () -> twelve.block(0, 5));
     }
 
     private static void cellsOfAllOwners() {

@@ -76,6 +76,7 @@ public final class ChooseTest {
         Due.is("not another's", x.choose(0, 4095), 3);
         Due.is("one's own", x.choose(1, 4095), 1);
         Due.none("only another's", () -> x.choose(0, 2));
+        Due.none("only others' of a lesser number", () -> x.choose(1, 4093));
         x.say(0, 0, 6, 3);
         Due.is("not a carried one", x.choose(0, 4095), 5);
         Due.none("only a carried one", () -> x.choose(0, 8));
@@ -85,6 +86,8 @@ public final class ChooseTest {
         Due.is("one that was heard", x.choose(1, 4095), 3);
         x.close(0, 5);
         Due.none("not a closed one", () -> x.choose(0, 4095));
+        x.close(0, 2);
+        Due.is("one whose other end is closed", x.choose(1, 4095), 3);
     }
 
     private static void onlyWithMessages() {

@@ -205,6 +205,24 @@ public final class HearTest {
         x.say(0, 0, 0, 1);
         Due.contract(x, 0, "1b!1");
         Due.is("hear by the channel's", x.hear(0, 1), 1);
+        eachChannelItsOwn(0);
+        eachChannelItsOwn(1);
+    }
+
+    private static void eachChannelItsOwn(int side) {
+        ExchangeSystem x = new ExchangeSystem();
+        for (int k = 0; k < 4; k++) {
+            Due.contract(x, k, "1a!" + (k + 2) + ",1b?" + (k + 2));
+        }
+        for (int c = 0; c < 6; c++) {
+            x.open(0, 0, (c + 1) % 4);
+        }
+        for (int c = 0; c < 6; c++) {
+            x.say(0, 2 * c + side, side, c);
+            Due.is("hear", x.hear(0, 2 * c + 1 - side), 16 * side + c);
+            Due.is("state of the sayer", x.ofEnd(2 * c + side, 1), (c + 1) % 4 + 2);
+            Due.is("state of the hearer", x.ofEnd(2 * c + 1 - side, 1), (c + 1) % 4 + 2);
+        }
     }
 
     private static void stateGoesOn() {

@@ -142,11 +142,14 @@ public final class OfTest {
     }
 
     private static void stateZeroOfOpenEnd() {
-        ExchangeSystem x = Due.system(1, "1a!0");
+        ExchangeSystem x = Due.system(1, "1a!0,1b?1");
         x.open(0, 0, 0);
         x.say(0, 0, 0, 0);
+        x.say(0, 1, 1, 0);
         Due.is("state", x.ofEnd(0, 1), 0);
         Due.is("owner", x.ofEnd(0, 0), 0);
+        Due.is("messages", x.ofEnd(0, 2), 1);
+        Due.is("choose", x.choose(0, 4095), 0);
         Due.is("count(3)", x.count(3), 2);
         Due.is("close", x.close(0, 0), 1);
     }

@@ -39,7 +39,7 @@ public final class OrderTest {
      * closed, its other end 2 is not; at end 5 the contract forbids to hear the waiting block 3.
      */
     private static ExchangeSystem busy() {
-        ExchangeSystem x = Due.system(2, "1a!1,1A!1,1E!1,1b?2,2c!2");
+        ExchangeSystem x = Due.system(2, "1a!1,1A!1,1E!1,1b?2,2c!2,1c!4,1B!3");
         Due.type(x, "1a!1,");
         x.open(0, 1, 0);
         x.open(0, 1, 0);
@@ -253,16 +253,16 @@ public final class OrderTest {
         Due.changesNothing("another's end", OrderTest::busy, x -> x.say(1, 4, 0, 0));
         Due.changesNothing("a closed end", OrderTest::busy, x -> x.say(1, 3, 1, 0));
         Due.changesNothing("a carried end", OrderTest::busy, x -> x.say(0, 6, 0, 0));
-        Due.changesNothing("a forbidden letter", OrderTest::busy, x -> x.say(0, 4, 2, 0));
-        Due.changesNothing("a forbidden letter with a block", OrderTest::busy, x -> x.say(0, 4, 4, 0));
+        Due.changesNothing("a forbidden letter", OrderTest::busy, x -> x.say(0, 5, 0, 0));
+        Due.changesNothing("a forbidden letter with a block", OrderTest::busy, x -> x.say(0, 4, 5, 0));
         Due.changesNothing("the other side's letter", OrderTest::busy, x -> x.say(0, 4, 1, 0));
     }
 
     private static void refusedLoad() {
-        Due.changesNothing("another's block", OrderTest::busy, x -> x.say(0, 4, 3, 1));
-        Due.changesNothing("a carried block", OrderTest::busy, x -> x.say(0, 4, 3, 2));
-        Due.changesNothing("a free block", OrderTest::busy, x -> x.say(0, 4, 3, 4));
-        Due.changesNothing("no block", OrderTest::busy, x -> x.say(0, 4, 3, 12));
+        Due.changesNothing("another's block", OrderTest::busy, x -> x.say(0, 4, 4, 1));
+        Due.changesNothing("a carried block", OrderTest::busy, x -> x.say(0, 4, 4, 2));
+        Due.changesNothing("a free block", OrderTest::busy, x -> x.say(0, 4, 4, 4));
+        Due.changesNothing("no block", OrderTest::busy, x -> x.say(0, 4, 4, 12));
         Due.changesNothing("another's end", OrderTest::busy, x -> x.say(0, 4, 6, 1));
         Due.changesNothing("a closed end", OrderTest::busy, x -> x.say(0, 4, 6, 3));
         Due.changesNothing("a carried end", OrderTest::busy, x -> x.say(0, 4, 6, 6));
@@ -272,14 +272,14 @@ public final class OrderTest {
     }
 
     private static void refusedByFullQueue() {
-        Due.changesNothing("a letter", OrderTest::busy, x -> x.say(0, 0, 0, 5));
-        Due.changesNothing("a block", OrderTest::busy, x -> x.say(0, 0, 3, 0));
+        Due.changesNothing("a letter", OrderTest::busy, x -> x.say(0, 0, 2, 5));
+        Due.changesNothing("a block", OrderTest::busy, x -> x.say(0, 0, 4, 0));
         Due.changesNothing("an end", OrderTest::busy, x -> x.say(0, 0, 6, 7));
     }
 
     private static void refusedByClosedEnd() {
-        Due.changesNothing("a letter", OrderTest::busy, x -> x.say(0, 2, 0, 5));
-        Due.changesNothing("a block", OrderTest::busy, x -> x.say(0, 2, 3, 0));
+        Due.changesNothing("a letter", OrderTest::busy, x -> x.say(0, 2, 2, 5));
+        Due.changesNothing("a block", OrderTest::busy, x -> x.say(0, 2, 4, 0));
         Due.changesNothing("an end", OrderTest::busy, x -> x.say(0, 2, 6, 7));
     }
 

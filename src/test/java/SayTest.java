@@ -215,6 +215,8 @@ public final class SayTest {
             Due.is("another's block", x.ofBlock(1, 0), 1);
             Due.is("another's end", x.ofEnd(3, 0), 1);
         }
+        Due.is("count(1)", x.count(1), 2);
+        Due.is("count(3)", x.count(3), 4);
     }
 
     private static void blocksAreSent() {
