@@ -3,7 +3,7 @@ import java.util.NoSuchElementException;
 /** What the tests share: answers and exceptions that are due, and how a test ends. */
 final class Due {
     /** Far above what the slowest test needs: a call that does not end must not hold up the others. */
-    private static final long LONGEST_MILLISECONDS = 300_000;
+    private static final long LONGEST_MILLISECONDS = 120_000;
 
     private static int wrong = 0;
 

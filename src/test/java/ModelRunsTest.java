@@ -3,7 +3,7 @@ import java.util.List;
 
 /** Runs of up to 512 calls, the same each time, on the class and on the model: each answer is the same. */
 public final class ModelRunsTest {
-    private static final int RUNS = 2000;
+    private static final int RUNS = 1200;
     private static final int CALLS = 512;
     /** A contract of 36 characters: five calls of type and one of contract. */
     private static final int MOST_AT_ONCE = 6;
