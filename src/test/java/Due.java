@@ -100,13 +100,17 @@ final class Due {
         report(name + " threw nothing, due is " + want.getName());
     }
 
-    /** The call throws, and then the object answers like one of the same scene without that call. */
+    /**
+     * The call throws an exception of the document, and then the object answers like one of the same
+     * scene without that call.
+     */
     static void changesNothing(String name, Scene scene, Use call) {
         ExchangeSystem x = scene.make();
         try {
             call.on(x);
             report(name + " threw nothing");
-        } catch (RuntimeException thrown) {
+        } catch (IllegalArgumentException | IllegalStateException | NoSuchElementException
+                | UnsupportedOperationException thrown) {
             same("behind " + name + " all", everything(x), everything(scene.make()));
         }
     }

@@ -53,7 +53,7 @@ public final class FaceTest {
         String head = method.getReturnType() + " " + method.getName() + "(" + parameters(method) + ") ";
         for (String line : METHODS) {
             if (line.startsWith(head)) {
-                declaresNoOther(method, line);
+                Due.same("what " + method.getName() + " may throw", exceptions(method), line.substring(head.length()));
                 return true;
             }
         }
@@ -62,20 +62,19 @@ public final class FaceTest {
     }
 
     private static String parameters(Method method) {
+        return names(method.getParameterTypes());
+    }
+
+    private static String exceptions(Method method) {
+        return names(method.getExceptionTypes());
+    }
+
+    private static String names(Class<?>[] types) {
         List<String> names = new ArrayList<>();
-        for (Class<?> type : method.getParameterTypes()) {
+        for (Class<?> type : types) {
             names.add(type.getSimpleName());
         }
         return String.join(" ", names);
-    }
-
-    /** All are unchecked, so one that is left out is no fault. */
-    private static void declaresNoOther(Method method, String line) {
-        for (Class<?> type : method.getExceptionTypes()) {
-            if (!line.contains(type.getSimpleName())) {
-                Due.report(method + " declares " + type);
-            }
-        }
     }
 
     private static void constructors() {

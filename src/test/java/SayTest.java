@@ -346,11 +346,18 @@ public final class SayTest {
         int[] none = {-1, 12, 13, 16, 18, 256, Integer.MIN_VALUE, Integer.MAX_VALUE};
         for (int number : none) {
             for (int letter = 3; letter < 7; letter++) {
-                int said = letter;
-                Due.notYours("say " + letter + " with " + number, () -> x.say(0, 0, said, number));
+                numberRefused(x, letter, number);
             }
         }
         Due.is("count(5)", x.count(5), 0);
+    }
+
+    /** At an end of every channel: a number that is none must not be taken for one of the own channel. */
+    private static void numberRefused(ExchangeSystem x, int letter, int number) {
+        for (int e = 0; e < 12; e += 2) {
+            int speaker = e;
+            Due.notYours("say " + letter + " with " + number + " at " + e, () -> x.say(0, speaker, letter, number));
+        }
     }
 
     /** Both are not yours, so which of them comes first can't be seen. */
